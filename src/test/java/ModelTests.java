@@ -2,7 +2,7 @@ import java.util.Random;
 
 /** Compares the class with the slow model, over runs of 512 calls that are drawn with fixed seeds. */
 public final class ModelTests {
-    private static final int RUNS = 150;
+    private static final int RUNS = 100;
     private static final int CALLS = 512;
 
     private final Checks checks = new Checks();
