@@ -7,12 +7,18 @@ final class Checks {
 
     private int wrong = 0;
     private int all = 0;
+    private String test = "";
+
+    /** What is checked from now on belongs to this test. */
+    void begin(String name) {
+        test = name + ": ";
+    }
 
     void due(String call, Object got, Object want) {
         all++;
         if (!got.equals(want)) {
             wrong++;
-            System.out.println(call + " answered " + got + ", due is " + want);
+            System.out.println(test + call + " answered " + got + ", due is " + want);
         }
     }
 
@@ -36,6 +42,10 @@ final class Checks {
 
     int wrong() {
         return wrong;
+    }
+
+    int all() {
+        return all;
     }
 
     void end() {

@@ -1,10 +1,5 @@
-/** One method a promise, in the order of the document: ordinary calls, the edges that it names, and wrong calls. */
-public final class PromiseTests {
-    private static final Class<IndexOutOfBoundsException> INDEX = IndexOutOfBoundsException.class;
-    private static final Class<IllegalArgumentException> ARGUMENT = IllegalArgumentException.class;
-    private static final Class<IllegalStateException> STATE = IllegalStateException.class;
-    private static final int NONE = MixedBlocks.NONE;
-
+/** One method a promise, in the order of the document: ordinary calls and wrong ones, each beside the other. */
+public final class PromiseTests extends Cases {
     // mixes of a file of 8 blocks, by the blocks that they have
     private static final int M_0 = 68;
     private static final int M_3 = 4;
@@ -15,8 +10,6 @@ public final class PromiseTests {
     private static final int M_123 = 46;
     private static final int M_ALL = 2;
     private static final int[] SINGLES = {68, 71, 61, 4, 67, 70, 0, 1};
-
-    private final Checks checks = new Checks();
 
     public static void main(String[] args) {
         PromiseTests tests = new PromiseTests();
@@ -48,31 +41,9 @@ public final class PromiseTests {
         tests.checks.end();
     }
 
-    /** The block b is 101 * (b + 1). */
-    private static MixedBlocks filled() {
-        MixedBlocks x = new MixedBlocks();
-        for (int b = 0; b < 8; b++) {
-            x.write(b, 101 * (b + 1));
-        }
-        return x;
-    }
-
-    /** As filled, and receiver 0 listens. */
-    private static MixedBlocks hearing() {
-        MixedBlocks x = filled();
-        x.listen(0, true);
-        return x;
-    }
-
     private static void send(MixedBlocks x, int... mixes) {
         for (int mix : mixes) {
             x.send(mix);
-        }
-    }
-
-    private static void type(MixedBlocks x, String text) {
-        for (char c : text.toCharArray()) {
-            x.append(c);
         }
     }
 
@@ -93,48 +64,30 @@ public final class PromiseTests {
     /** Undo brings back all that there was before the call. */
     private void isUndone(MixedBlocks x, String call, Checks.Call tried) {
         int saved = x.count(5);
-        long before = digestButSaved(x);
+        String before = stateOf(x);
         tried.answer();
         checks.due("saved states behind " + call, x.count(5), Math.min(6, saved + 1));
         checks.due("undo() of " + call, x.undo(), Math.min(6, saved + 1) - 1);
-        checks.due("digest behind undo() of " + call, digestButSaved(x), before);
+        checks.due("state behind undo() of " + call, stateOf(x), before);
     }
 
-    /** As digest(), but without the saved states. */
-    private static long digestButSaved(MixedBlocks x) {
-        long hash = 3253;
-        int[] counts = {x.count(0), x.count(1), x.count(2), x.count(3), x.count(4)};
-        for (int count : counts) {
-            hash = 31 * hash + count;
-        }
-        for (int b = 0; b < x.count(0); b++) {
-            hash = 31 * hash + x.block(b);
+    /** All but the saved states and the buffer. */
+    private static String stateOf(MixedBlocks x) {
+        StringBuilder state = new StringBuilder();
+        int blocks = x.count(0);
+        state.append(blocks).append(' ').append(x.count(1));
+        for (int b = 0; b < blocks; b++) {
+            state.append(' ').append(x.block(b));
         }
         for (int r = 0; r < 3; r++) {
-            hash = receiverHash(x, r, hash);
+            for (int what = 0; what <= 6; what++) {
+                state.append(' ').append(x.receiver(r, what));
+            }
+            for (int i = x.receiver(r, 3) - 1; i >= 0; i--) {
+                state.append(' ').append(x.waiting(r, i, 0)).append(' ').append(x.waiting(r, i, 1));
+            }
         }
-        return hash;
-    }
-
-    private static long receiverHash(MixedBlocks x, int r, long start) {
-        long hash = start;
-        for (int what = 0; what <= 8; what++) {
-            hash = 31 * hash + x.receiver(r, what);
-        }
-        for (int b = 0; b < x.count(0); b++) {
-            hash = 31 * hash + x.known(r, b);
-        }
-        for (int i = 0; i < x.receiver(r, 3); i++) {
-            hash = 31 * hash + x.waiting(r, i, 0);
-            hash = 31 * hash + x.waiting(r, i, 1);
-        }
-        hash = 31 * hash + x.ifGot(r, 100, 0);
-        hash = 31 * hash + x.ifGot(r, 100, 1);
-        hash = 31 * hash + x.helps(r, 0);
-        hash = 31 * hash + x.needs(r, 5, false);
-        hash = 31 * hash + x.needs(r, 5, true);
-        hash = 31 * hash + x.ifEliminated(r);
-        return 31 * hash + Double.doubleToLongBits(x.use(r));
+        return state.toString();
     }
 
     private void promise1NewObject() {
@@ -161,7 +114,7 @@ public final class PromiseTests {
     }
 
     private void promise2Size() {
-        MixedBlocks x = filled();
+        MixedBlocks x = filled(8);
         checks.due("2: size(2)", x.size(2), 8);
         checks.due("2: size(12)", x.size(12), 2);
         int[] want = {101, 202, 0, 0, 0, 0, 0, 0, 0, 0, 0, 0};
@@ -171,7 +124,7 @@ public final class PromiseTests {
         for (int wrong : new int[] {1, 13, 0, -1, Integer.MIN_VALUE, Integer.MAX_VALUE}) {
             refuses(x, "2: size(" + wrong + ")", ARGUMENT, () -> x.size(wrong));
         }
-        MixedBlocks y = hearing();
+        MixedBlocks y = hearing(8);
         send(y, M_0, M_12);
         checks.due("2: size(8) of 8", y.size(8), 8);
         forgot("2: size to what it was", y, 2);
@@ -205,7 +158,7 @@ public final class PromiseTests {
         for (int wrong : new int[] {-1, 65536, Integer.MIN_VALUE, Integer.MAX_VALUE}) {
             refuses(x, "3: write(0, " + wrong + ")", ARGUMENT, () -> x.write(0, wrong));
         }
-        MixedBlocks y = hearing();
+        MixedBlocks y = hearing(8);
         send(y, M_0, M_12);
         checks.due("3: write(5, 606) of 606", y.write(5, 606), 606);
         forgot("3: write to what it was", y, 2);
@@ -216,7 +169,7 @@ public final class PromiseTests {
     }
 
     private void promise4Listen() {
-        MixedBlocks x = filled();
+        MixedBlocks x = filled(8);
         checks.due("4: listen(1, true)", x.listen(1, true), 0);
         checks.due("4: listen(1, true) again", x.listen(1, true), 1);
         checks.due("4: receiver(1, 0)", x.receiver(1, 0), 1);
@@ -236,7 +189,7 @@ public final class PromiseTests {
     }
 
     private void promise5Forget() {
-        MixedBlocks x = hearing();
+        MixedBlocks x = hearing(8);
         x.listen(1, true);
         send(x, M_0, M_3, M_12);
         checks.due("5: forget(0)", x.forget(0), 2);
@@ -252,7 +205,7 @@ public final class PromiseTests {
     }
 
     private void promise6Send() {
-        MixedBlocks x = hearing();
+        MixedBlocks x = hearing(8);
         checks.due("6: send(M_01)", x.send(M_01), 0);
         checks.due("6: send(M_01_TOO)", x.send(M_01_TOO), 0);
         checks.due("6: send(M_12)", x.send(M_12), 0);
@@ -278,13 +231,13 @@ public final class PromiseTests {
         for (int wrong : new int[] {-1, 10000, Integer.MIN_VALUE, Integer.MAX_VALUE}) {
             refuses(x, "6: send(" + wrong + ")", ARGUMENT, () -> x.send(wrong));
         }
-        MixedBlocks y = filled();
+        MixedBlocks y = filled(8);
         checks.due("6: send(9999) that nobody hears", y.send(9999), 0);
         checks.due("6: it is sent", y.count(1), 1);
     }
 
     private void promise6Room() {
-        MixedBlocks x = hearing();
+        MixedBlocks x = hearing(8);
         for (int i = 0; i < 24; i++) {
             x.send(i % 2 == 0 ? M_01 : M_12);
         }
@@ -306,7 +259,7 @@ public final class PromiseTests {
     }
 
     private void promise7Eliminate() {
-        MixedBlocks x = hearing();
+        MixedBlocks x = hearing(8);
         send(x, M_12, M_123, M_35);
         checks.due("7: peeling found nothing", x.receiver(0, 1), 0);
         checks.due("7: eliminate(1)", x.eliminate(1), 0);
@@ -337,7 +290,7 @@ public final class PromiseTests {
     }
 
     private void promise8Append() {
-        MixedBlocks x = filled();
+        MixedBlocks x = filled(8);
         checks.due("8: append(33)", x.append(33), 1);
         checks.due("8: append(126)", x.append(126), 2);
         int saved = x.count(5);
@@ -355,7 +308,7 @@ public final class PromiseTests {
     }
 
     private void promise9ClearBuffer() {
-        MixedBlocks x = filled();
+        MixedBlocks x = filled(8);
         int saved = x.count(5);
         type(x, "12,x");
         checks.due("9: clearBuffer()", x.clearBuffer(), 4);
@@ -380,7 +333,7 @@ public final class PromiseTests {
             int at = row.indexOf('@');
             firstErrorOf(row.substring(0, at), Integer.parseInt(row.substring(at + 1)));
         }
-        MixedBlocks x = filled();
+        MixedBlocks x = filled(8);
         type(x, "5,,");
         leaves(x, "10: firstError()", x::firstError);
     }
@@ -393,7 +346,7 @@ public final class PromiseTests {
     }
 
     private void promise11SendAll() {
-        MixedBlocks x = hearing();
+        MixedBlocks x = hearing(8);
         type(x, "68,38-38,69,4");
         checks.due("11: sendAll()", x.sendAll(), 4);
         checks.due("11: mask", x.receiver(0, 2), 0b1111);
@@ -419,7 +372,7 @@ public final class PromiseTests {
     }
 
     private void sendsHundred(String text, int want) {
-        MixedBlocks x = hearing();
+        MixedBlocks x = hearing(8);
         type(x, text);
         checks.due("11: sendAll() of " + text, x.sendAll(), want);
         checks.due("11: sent by " + text, x.count(1), want);
@@ -429,8 +382,8 @@ public final class PromiseTests {
 
     /** The first hundred are sent, in the order of the text. */
     private void inOrder() {
-        MixedBlocks x = hearing();
-        MixedBlocks y = hearing();
+        MixedBlocks x = hearing(8);
+        MixedBlocks y = hearing(8);
         type(x, "50-52,69,57-58,41");
         x.sendAll();
         send(y, 50, 51, 52, 69, 57, 58, 41);
@@ -451,7 +404,7 @@ public final class PromiseTests {
             checks.due("12: block(0)", x.block(0), left + 2);
         }
         refuses(x, "12: undo() of none", STATE, x::undo);
-        MixedBlocks y = hearing();
+        MixedBlocks y = hearing(8);
         type(y, "68,69");
         y.sendAll();
         type(y, "7");
@@ -469,7 +422,7 @@ public final class PromiseTests {
     }
 
     private void promise13Mix() {
-        MixedBlocks x = filled();
+        MixedBlocks x = filled(8);
         int[][] rows = {{0, 1, 0b1000000}, {1, 1, 0b10000000}, {2, 8, 0b11111111}, {7, 6, 0b1110111}, {11, 5, 0b10001111},
             {15, 4, 0b1001110}, {26, 3, 0b1000110}, {38, 2, 0b11}, {9999, 3, 0b1001100}};
         for (int[] row : rows) {
@@ -509,7 +462,7 @@ public final class PromiseTests {
     }
 
     private void promise14Receiver() {
-        MixedBlocks x = hearing();
+        MixedBlocks x = hearing(8);
         send(x, M_0, M_0, M_12, M_123, M_12);
         int[] want = {1, 1, 0b1, 3, 5, 1, 0, 0, 3};
         for (int what = 0; what <= 8; what++) {
@@ -533,7 +486,7 @@ public final class PromiseTests {
     }
 
     private void promise15Known() {
-        MixedBlocks x = hearing();
+        MixedBlocks x = hearing(8);
         x.write(3, 0);
         send(x, M_0, M_3);
         checks.due("15: known(0, 0)", x.known(0, 0), 101);
@@ -551,7 +504,7 @@ public final class PromiseTests {
     }
 
     private void promise16Waiting() {
-        MixedBlocks x = hearing();
+        MixedBlocks x = hearing(8);
         send(x, M_123, M_35, M_01, M_3);
         int[][] rows = {{0b110, 202 ^ 303}, {0b11, 101 ^ 202}, {NONE, NONE}};
         for (int place = 0; place < 3; place++) {
@@ -577,7 +530,7 @@ public final class PromiseTests {
     }
 
     private void promise17Count() {
-        MixedBlocks x = hearing();
+        MixedBlocks x = hearing(8);
         x.listen(2, true);
         send(x, SINGLES);
         x.listen(2, false);
@@ -598,7 +551,7 @@ public final class PromiseTests {
     }
 
     private void promise18Block() {
-        MixedBlocks x = filled();
+        MixedBlocks x = filled(8);
         for (int b = 0; b < 8; b++) {
             checks.due("18: block(" + b + ")", x.block(b), 101 * (b + 1));
         }
@@ -610,7 +563,7 @@ public final class PromiseTests {
     }
 
     private void promise19IfGot() {
-        MixedBlocks x = hearing();
+        MixedBlocks x = hearing(8);
         send(x, M_01, M_12, M_123);
         x.listen(0, false);
         checks.due("19: ifGot(0, M_0, 0), also if it does not listen", x.ifGot(0, M_0, 0), 4);
@@ -621,7 +574,7 @@ public final class PromiseTests {
         checks.due("19: ifGot(1, M_0, 0)", x.ifGot(1, M_0, 0), 1);
         leaves(x, "19: ifGot(0, M_0, 0)", () -> x.ifGot(0, M_0, 0));
         leaves(x, "19: ifGot(0, M_35, 1)", () -> x.ifGot(0, M_35, 1));
-        MixedBlocks y = hearing();
+        MixedBlocks y = hearing(8);
         for (int i = 0; i < 24; i++) {
             y.send(M_01);
         }
@@ -639,7 +592,7 @@ public final class PromiseTests {
     }
 
     private void promise20Helps() {
-        MixedBlocks x = hearing();
+        MixedBlocks x = hearing(8);
         checks.due("20: helps(0, 0)", x.helps(0, 0), 0);
         checks.due("20: helps(0, 2)", x.helps(0, 2), 4);
         checks.due("20: helps(0, 5)", x.helps(0, 5), 61);
@@ -662,42 +615,10 @@ public final class PromiseTests {
         for (int wrong : new int[] {-1, 10000, Integer.MIN_VALUE, Integer.MAX_VALUE}) {
             refuses(x, "20: helps(0, " + wrong + ")", ARGUMENT, () -> x.helps(0, wrong));
         }
-        helpsEdges();
-    }
-
-    /**
-     * None is found above 9999. That the 100th behind it is not looked at shows in no answer: by all that a receiver
-     * can know of a file of 2 to 12 blocks, the next mix that helps is at most 70 away.
-     */
-    private void helpsEdges() {
-        MixedBlocks x = new MixedBlocks();
-        int last = 9999;
-        while (x.mix(last, 0) > 1) {
-            last--;
-        }
-        checks.due("20: helps(0, the last mix of one block)", x.helps(0, last), last);
-        for (int from = last + 1; from <= 9999; from++) {
-            checks.due("20: helps(0, " + from + ")", x.helps(0, from), NONE);
-        }
-        x.listen(0, true);
-        for (int k = 0; k < 7; k++) {
-            send(x, SINGLES[k]);
-        }
-        // the mix 9999 is {2, 3, 6}
-        MixedBlocks y = hearing();
-        checks.due("20: helps(0, 9999) of who knows nothing", y.helps(0, 9999), NONE);
-        send(y, SINGLES[2], SINGLES[3]);
-        checks.due("20: helps(0, 9999) of who knows 2 and 3", y.helps(0, 9999), 9999);
-        int next = NONE;
-        for (int from = 9999; from >= 0; from--) {
-            // who knows all but the block 7 is helped by just the mixes with the block 7
-            next = (x.mix(from, 1) & 0b10000000) != 0 ? from : next;
-            checks.due("20: all but the block 7, helps(0, " + from + ")", x.helps(0, from), next);
-        }
     }
 
     private void promise21Needs() {
-        MixedBlocks x = filled();
+        MixedBlocks x = filled(8);
         checks.due("21: needs(0, 0, false)", x.needs(0, 0, false), 32);
         checks.due("21: needs(0, 0, true)", x.needs(0, 0, true), 20);
         checks.due("21: needs(0, 10, false)", x.needs(0, 10, false), 56);
@@ -717,14 +638,13 @@ public final class PromiseTests {
             refuses(x, "21: needs(0, " + wrong + ", false)", ARGUMENT, () -> x.needs(0, wrong, false));
         }
         needsElimination();
-        needsHundred();
     }
 
     /** What needs tells is what comes when the mixes are sent. */
     private void needsAsSent(int from) {
         for (int way = 0; way < 2; way++) {
             boolean eliminates = way == 1;
-            MixedBlocks x = hearing();
+            MixedBlocks x = hearing(8);
             int want = x.needs(0, from, eliminates);
             int sent = 0;
             while (x.receiver(0, 7) == 0 && sent < 100) {
@@ -754,35 +674,8 @@ public final class PromiseTests {
         checks.due("21: it comes behind the first mix", x.needs(0, M_ALL, true), 1);
     }
 
-    /** By the 100th is by 100, later is NONE; with 9 blocks there is one such stretch of mixes. */
-    private void needsHundred() {
-        MixedBlocks x = new MixedBlocks();
-        x.size(9);
-        int at100 = 0;
-        while (at100 < 9899 && x.needs(0, at100, false) != 100) {
-            at100++;
-        }
-        checks.due("21: needs 100", countSent(9, at100), 100);
-        checks.due("21: needs 101", x.needs(0, at100 - 1, false), NONE);
-        checks.due("21: needs 101, as sent", countSent(9, at100 - 1), NONE);
-        checks.due("21: needs 99", x.needs(0, at100 + 1, false), 99);
-    }
-
-    private static int countSent(int n, int from) {
-        MixedBlocks x = new MixedBlocks();
-        x.size(n);
-        x.listen(0, true);
-        for (int sent = 0; sent < 100; sent++) {
-            if (x.receiver(0, 7) == 1) {
-                return sent;
-            }
-            x.send(from + sent);
-        }
-        return x.receiver(0, 7) == 1 ? 100 : NONE;
-    }
-
     private void promise22IfEliminated() {
-        MixedBlocks x = hearing();
+        MixedBlocks x = hearing(8);
         checks.due("22: ifEliminated(0) of nothing", x.ifEliminated(0), 0);
         send(x, M_12, M_123, M_35);
         checks.due("22: ifEliminated(0)", x.ifEliminated(0), 2);
@@ -796,7 +689,7 @@ public final class PromiseTests {
     }
 
     private void promise23Use() {
-        MixedBlocks x = hearing();
+        MixedBlocks x = hearing(8);
         checks.due("23: use(0) of nothing", x.use(0), 1.0);
         send(x, M_0);
         checks.due("23: use(0) of what helped", x.use(0), 1.0);
@@ -811,7 +704,7 @@ public final class PromiseTests {
         }
         checks.due("23: use(0) with one lost", x.use(0), 26.0 / 29.0);
         leaves(x, "23: use(0)", () -> x.use(0));
-        MixedBlocks y = hearing();
+        MixedBlocks y = hearing(8);
         send(y, SINGLES);
         y.write(0, 5);
         checks.due("23: use(1)", y.use(1), 1.0);
@@ -821,42 +714,38 @@ public final class PromiseTests {
     }
 
     private void promise24Digest() {
-        MixedBlocks x = new MixedBlocks();
-        digestByHand(x, "");
-        type(x, "~1,-");
-        digestByHand(x, "~1,-");
-        x.clearBuffer();
-        type(x, "2-9,68-70");
-        x.listen(0, true);
-        x.listen(2, true);
-        digestByHand(x, "2-9,68-70");
-        x.sendAll();
-        digestByHand(x, "");
-        x.listen(1, true);
-        x.size(12);
-        x.write(11, 65535);
-        for (int k = 9000; k < 9100; k++) {
-            x.send(k);
-            digestByHand(x, "");
+        digestByHand(MixedBlocks::new, "");
+        digestByHand(() -> typedOnly("~1,-"), "~1,-");
+        digestByHand(() -> typedOnly("2-9,68-70"), "2-9,68-70");
+        for (int sent = 0; sent <= 100; sent += 4) {
+            int behind = sent;
+            digestByHand(() -> sentTo12(behind), "");
         }
+        MixedBlocks x = sentTo12(50);
         leaves(x, "24: digest()", x::digest);
     }
 
-    private void digestByHand(MixedBlocks x, String buffer) {
-        long hash = 3253;
-        for (int what = 0; what <= 5; what++) {
-            hash = 31 * hash + x.count(what);
+    private static MixedBlocks typedOnly(String text) {
+        MixedBlocks x = new MixedBlocks();
+        type(x, text);
+        return x;
+    }
+
+    /** Receiver 1 has heard 5 mixes less. */
+    private static MixedBlocks sentTo12(int mixes) {
+        MixedBlocks x = filled(12);
+        x.listen(0, true);
+        x.write(11, 65535);
+        for (int i = 0; i < mixes; i++) {
+            if (i == 5) {
+                x.listen(1, true);
+            }
+            x.send(9000 + i);
         }
-        for (int b = 0; b < x.count(0); b++) {
-            hash = 31 * hash + x.block(b);
-        }
-        for (int r = 0; r < 3; r++) {
-            hash = receiverHash(x, r, hash);
-        }
-        hash = 31 * hash + buffer.length();
-        for (char c : buffer.toCharArray()) {
-            hash = 31 * hash + c;
-        }
-        checks.due("24: digest() with the buffer " + buffer, x.digest(), hash);
+        return x;
+    }
+
+    private void digestByHand(Maker state, String buffer) {
+        checks.due("24: digest() with the buffer " + buffer, state.made().digest(), digestOf(state.made(), buffer));
     }
 }
