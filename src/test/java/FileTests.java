@@ -70,14 +70,16 @@ public final class FileTests extends Cases {
         due("block(11)", x.block(11), 0);
     }
 
-    @Holds(in = "Promise 2", words = {"`blocks`: 2 to 12", "Throws `IllegalArgumentException` if blocks is out of range"})
+    @Holds(in = "Promise 2",
+        words = {"`blocks`: 2 to 12", "Throws `IllegalArgumentException` if blocks is out of range"})
     void promise2SizeOf1IsRefused() {
         refusedBelow(2, "size", ARGUMENT, (x, n) -> x.size(n));
         refused(Cases::busy, "size(0)", ARGUMENT, x -> x.size(0));
         refused(Cases::busy, "size(-1)", ARGUMENT, x -> x.size(-1));
     }
 
-    @Holds(in = "Promise 2", words = {"`blocks`: 2 to 12", "Throws `IllegalArgumentException` if blocks is out of range"})
+    @Holds(in = "Promise 2",
+        words = {"`blocks`: 2 to 12", "Throws `IllegalArgumentException` if blocks is out of range"})
     void promise2SizeOf13IsRefused() {
         refusedAbove(12, "size", ARGUMENT, (x, n) -> x.size(n));
     }

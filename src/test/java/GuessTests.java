@@ -6,7 +6,8 @@ public final class GuessTests extends Cases {
 
     // ---- promise 19
 
-    @Holds(in = "Promise 19", words = {"Tells what a mix would bring a receiver", "`receiver`: 0 to 2", "Returns the number."})
+    @Holds(in = "Promise 19",
+        words = {"Tells what a mix would bring a receiver", "`receiver`: 0 to 2", "Returns the number."})
     void promise19Receivers0And2() {
         MixedBlocks x = hearing(8);
         mix(x, 0);
@@ -46,7 +47,8 @@ public final class GuessTests extends Cases {
         refusedAbove(9999, "ifGot(0, .., 0)", ARGUMENT, (x, k) -> x.ifGot(0, k, 0));
     }
 
-    @Holds(in = "Promise 19", words = {"`what`: 0: how many blocks would become known", "if mix or what is out of range"})
+    @Holds(in = "Promise 19",
+        words = {"`what`: 0: how many blocks would become known", "if mix or what is out of range"})
     void promise19WhatBelow0IsRefused() {
         refusedBelow(0, "ifGot(0, 0, ..)", ARGUMENT, (x, what) -> x.ifGot(0, 0, what));
     }
@@ -468,7 +470,8 @@ public final class GuessTests extends Cases {
         due("use(0) with none", x.use(0), 1.0);
     }
 
-    @Holds(in = "Promise 23", words = "the mixes that it got so far, but those that told nothing new, and those that were lost")
+    @Holds(in = "Promise 23",
+        words = "the mixes that it got so far, but those that told nothing new, and those that were lost")
     void promise23WhatWaitsOrIsKnownHelped() {
         MixedBlocks x = full(8);
         due("use(0) with 24 that wait", x.use(0), 1.0);
@@ -515,14 +518,14 @@ public final class GuessTests extends Cases {
         due("digest() with the buffer " + buffer, state.made().digest(), digestOf(state.made(), buffer));
     }
 
-    /** All its 90 values, written out: what a new object answers. */
+    /** All its 87 values, written out as far as no other promise tells them. */
     @Holds(in = "Promise 24", words = {"The hash starts at 3253.", "the hash becomes 31 * hash + v", "The values are:",
         "Returns the hash."})
     void promise24OfANewObject() {
         MixedBlocks x = new MixedBlocks();
         long hash = 3253;
         long[] file = {8, 0, 0, 0, 0, 0, 0, 0, 0, 0, 0, 0, 0, 0};
-        // 9 numbers, 8 blocks, ifGot of {1, 2} twice, helps, needs twice, ifEliminated, the bits of 1.0
+        // 9 numbers, 8 blocks, ifGot twice, helps, needs twice, ifEliminated, the bits of 1.0
         long[] receiver = {0, 0, 0, 0, 0, 0, 0, 0, 0, -1, -1, -1, -1, -1, -1, -1, -1, x.ifGot(0, 100, 0),
             x.ifGot(0, 100, 1), 0, x.needs(0, 5, false), x.needs(0, 5, true), 0, 4607182418800017408L};
         hash = hashed(hash, file);
@@ -602,6 +605,25 @@ public final class GuessTests extends Cases {
     private static MixedBlocks eliminated() {
         MixedBlocks x = toldTogether();
         x.eliminate(0);
+        return x;
+    }
+
+    /** Of 8 blocks the mix 99 is {3, 4, 5}, the mix 100 is {0, 1, 5, 7}, and the mix 101 is {1, 2, 5, 7}. */
+    @Holds(in = "Promise 24", words = "ifGot of the mix 100 with 0 and 1, helps from 0, needs from 5")
+    void promise24OfWhoKnowsAllButOne() {
+        for (int b = 0; b < 8; b++) {
+            int lacks = b;
+            digestIs(() -> allBut(lacks), "");
+        }
+    }
+
+    private static MixedBlocks allBut(int lacks) {
+        MixedBlocks x = hearing(8);
+        for (int b = 0; b < 8; b++) {
+            if (b != lacks) {
+                mix(x, b);
+            }
+        }
         return x;
     }
 

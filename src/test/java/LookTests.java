@@ -96,7 +96,8 @@ public final class LookTests extends Cases {
         refusedAbove(8, "receiver(0, ..)", ARGUMENT, (x, what) -> x.receiver(0, what));
     }
 
-    @Holds(in = "Promise 14", words = {"0: 1 if it listens, otherwise 0", "1: how many blocks it knows; 2: a mask of them",
+    @Holds(in = "Promise 14",
+        words = {"0: 1 if it listens, otherwise 0", "1: how many blocks it knows; 2: a mask of them",
         "7: 1 if it is done, otherwise 0; 8: its rank"})
     void promise14AllNumbersOfWhoGotNothing() {
         MixedBlocks x = hearing(12);
@@ -104,7 +105,8 @@ public final class LookTests extends Cases {
         numbers(x, 2, 0, 0, 0, 0, 0, 0, 0, 0, 0);
     }
 
-    @Holds(in = "Promise 14", words = {"1: how many blocks it knows; 2: a mask of them", "7: 1 if it is done, otherwise 0",
+    @Holds(in = "Promise 14",
+        words = {"1: how many blocks it knows; 2: a mask of them", "7: 1 if it is done, otherwise 0",
         "8: its rank"})
     void promise14AllNumbersOfWhoIsDone() {
         numbers(done(2), 0, 1, 2, 3, 0, 2, 0, 0, 1, 2);

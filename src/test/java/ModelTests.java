@@ -1,6 +1,6 @@
 import java.util.Random;
 
-/** Compares the class with the slow model, over runs of 512 calls that are drawn with fixed seeds; digest is the last. */
+/** Compares the class with the slow model, over runs of 512 calls, drawn with fixed seeds; digest is the last one. */
 public final class ModelTests {
     private static final int RUNS = 100;
     private static final int CALLS = 511;

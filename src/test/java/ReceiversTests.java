@@ -117,7 +117,8 @@ public final class ReceiversTests extends Cases {
 
     // ---- how many blocks are left
 
-    @Holds(in = "Receivers", words = "blocks that it knows are taken out of the mix (its value is put together with them")
+    @Holds(in = "Receivers",
+        words = "blocks that it knows are taken out of the mix (its value is put together with them")
     void leftIsWhatIsNotKnown() {
         MixedBlocks x = hearing(8);
         mixes(x, new int[][] {{0}, {2}, {0, 1, 2, 3}});
@@ -189,7 +190,8 @@ public final class ReceiversTests extends Cases {
         numbers(x, 0, 1, 1, mask(0), 1, 2, 0, 0, 0, 2);
     }
 
-    @Holds(in = "Receivers", words = "with one block left it makes this one known (which is taken out of all others, too)")
+    @Holds(in = "Receivers",
+        words = "with one block left it makes this one known (which is taken out of all others, too)")
     void peelingGoesOnFromFirstToLast() {
         MixedBlocks x = hearing(12);
         for (int b = 0; b < 11; b++) {
@@ -218,6 +220,21 @@ public final class ReceiversTests extends Cases {
         mixes(x, new int[][] {{0, 1}, {0, 1}, {0, 1}});
         due("send({0})", mix(x, 0), 2);
         numbers(x, 0, 1, 2, mask(0, 1), 0, 4, 2, 0, 0, 2);
+    }
+
+    @Holds(in = "Receivers", words = "As long as a waiting mix has less than two blocks left")
+    void peelingOfTheFirstAndOfThe24thAlone() {
+        MixedBlocks x = hearing(8);
+        mix(x, 3, 4);
+        for (int i = 0; i < 22; i++) {
+            mix(x, 0, 1);
+        }
+        mix(x, 5, 6);
+        due("send({5}), 6 by the 24th", mix(x, 5), 2);
+        due("waits", x.receiver(0, WAITS), 23);
+        due("send({3}), 4 by the first", mix(x, 3), 2);
+        due("waits without both", x.receiver(0, WAITS), 22);
+        due("lost", x.receiver(0, LOST), 0);
     }
 
     @Holds(in = "Receivers", words = "with none it told nothing new")

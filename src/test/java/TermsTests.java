@@ -388,7 +388,8 @@ public final class TermsTests extends Cases {
     @Holds(in = "Input text", words = "a character is a syntax error if no mixes as a text, of any length, begin")
     void textThatCanStillBecomeMixesIsNoError() {
         // each second number is less than the first one, and can still become greater
-        String[] texts = {"40-3", "40-39", "500-5", "500-49", "9999-9", "9999-99", "9999-999", "9-1", "10-9", "5-", "5,"};
+        String[] texts = {"40-3", "40-39", "500-5", "500-49", "9999-9", "9999-99", "9999-999", "9-1", "10-9", "5-",
+            "5,"};
         for (String text : texts) {
             due("firstError() of " + text, typed(text).firstError(), text.length());
         }
@@ -565,9 +566,9 @@ public final class TermsTests extends Cases {
 
     @Holds(in = "Exceptions", words = "A call that throws an exception changes nothing.")
     void exceptionsChangeNothingOneBehindTheOther() {
-        On[] calls = {x -> x.size(13), x -> x.write(-1, 5), x -> x.write(0, -1), x -> x.listen(-1, true), x -> x.forget(-1),
-            x -> x.send(-1), x -> x.eliminate(-1), x -> x.append(127), MixedBlocks::sendAll, x -> x.mix(-1, 0),
-            x -> x.receiver(0, 9), x -> x.known(0, 8), x -> x.waiting(0, -1, 0), x -> x.count(6), x -> x.block(8),
+        On[] calls = {x -> x.size(13), x -> x.write(-1, 5), x -> x.write(0, -1), x -> x.listen(-1, true),
+            x -> x.forget(-1), x -> x.send(-1), x -> x.eliminate(-1), x -> x.append(127), MixedBlocks::sendAll,
+            x -> x.mix(-1, 0), x -> x.receiver(0, 9), x -> x.known(0, 8), x -> x.waiting(0, -1, 0), x -> x.count(6), x -> x.block(8),
             x -> x.ifGot(0, 10000, 0), x -> x.helps(0, 10000), x -> x.needs(0, 9900, true), x -> x.ifEliminated(3),
             x -> x.use(3)};
         MixedBlocks x = busy();

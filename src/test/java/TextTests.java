@@ -53,7 +53,8 @@ public final class TextTests extends Cases {
         refused(TextTests::fullBuffer, "append(126)", STATE, x -> x.append(126));
     }
 
-    @Holds(in = "Promise 8", words = {"Throws `IllegalArgumentException` if code", "Throws `IllegalStateException` if the buffer"})
+    @Holds(in = "Promise 8",
+        words = {"Throws `IllegalArgumentException` if code", "Throws `IllegalStateException` if the buffer"})
     void promise8TheCodeIsLookedAtAheadOfTheBuffer() {
         refused(TextTests::fullBuffer, "append(32)", ARGUMENT, x -> x.append(32));
         refused(TextTests::fullBuffer, "append(127)", ARGUMENT, x -> x.append(127));
@@ -197,6 +198,7 @@ public final class TextTests extends Cases {
         sends("0-99,5", 100);
         sends("5,0-99", 100);
         sends("0-49,0-49,5", 100);
+        sends("0-59,0-59,5", 100);
         sends("0-9999", 100);
         sends("0-9999,0-9999", 100);
     }
