@@ -568,9 +568,9 @@ public final class TermsTests extends Cases {
     void exceptionsChangeNothingOneBehindTheOther() {
         On[] calls = {x -> x.size(13), x -> x.write(-1, 5), x -> x.write(0, -1), x -> x.listen(-1, true),
             x -> x.forget(-1), x -> x.send(-1), x -> x.eliminate(-1), x -> x.append(127), MixedBlocks::sendAll,
-            x -> x.mix(-1, 0), x -> x.receiver(0, 9), x -> x.known(0, 8), x -> x.waiting(0, -1, 0), x -> x.count(6), x -> x.block(8),
-            x -> x.ifGot(0, 10000, 0), x -> x.helps(0, 10000), x -> x.needs(0, 9900, true), x -> x.ifEliminated(3),
-            x -> x.use(3)};
+            x -> x.mix(-1, 0), x -> x.receiver(0, 9), x -> x.known(0, 8), x -> x.waiting(0, -1, 0), x -> x.count(6),
+            x -> x.block(8), x -> x.ifGot(0, 10000, 0), x -> x.helps(0, 10000), x -> x.needs(0, 9900, true),
+            x -> x.ifEliminated(3), x -> x.use(3)};
         MixedBlocks x = busy();
         for (On call : calls) {
             String answer = String.valueOf(Checks.answerOf(() -> call.answer(x)));
