@@ -46,13 +46,19 @@ public final class FaceTests {
         "IndexOutOfBoundsException", "ArithmeticException", "UnsupportedOperationException", "NoSuchElementException",
         "RuntimeException");
 
+    private static final Path DOCUMENT = Path.of("../shared/DOC.md");
+
     private final Checks checks = new Checks();
 
     public static void main(String[] args) throws IOException {
         FaceTests tests = new FaceTests();
+        String source = Files.readString(Path.of("src/main/java/MixedBlocks.java"));
         tests.face();
         tests.innerClasses();
-        tests.source(Files.readString(Path.of("src/main/java/MixedBlocks.java")));
+        tests.source(source);
+        if (Files.exists(DOCUMENT)) {
+            tests.documentsFace(source, Files.readString(DOCUMENT));
+        }
         tests.checks.end();
     }
 
@@ -118,6 +124,20 @@ public final class FaceTests {
             checks.due(one.getName() + " is not public", Modifier.isPublic(one.getModifiers()), false);
             checks.due(one.getName() + " has some twenty fields at most", fields <= 20, true);
         }
+    }
+
+    /** Each line of the document's face stands in the source, with its throws clause; how it is wrapped is free. */
+    private void documentsFace(String source, String document) {
+        String wrapped = source.replaceAll("\\s+", " ");
+        Matcher lines = Pattern.compile("(?m)^    (public [^;]*);$").matcher(document);
+        int all = 0;
+        while (lines.find()) {
+            String line = lines.group(1);
+            boolean stands = wrapped.contains(line + " {") || wrapped.contains(line + ";");
+            checks.due("the source has " + line, stands, true);
+            all++;
+        }
+        checks.due("lines of the document's face", all, FACE.length + 2);
     }
 
     private void source(String source) {

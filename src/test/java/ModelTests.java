@@ -1,9 +1,15 @@
 import java.util.Random;
 
-/** Compares the class with the slow model, over runs of 512 calls, drawn with fixed seeds; digest is the last one. */
+/**
+ * Compares the class with the slow model, over runs of 512 calls, drawn with fixed seeds, digest the last one of each;
+ * and over each short text whose characters but the last one are no errors.
+ */
 public final class ModelTests {
     private static final int RUNS = 100;
     private static final int CALLS = 511;
+    /** Long enough for a first number, "-", all lengths of a second one, and a character behind it. */
+    private static final int SHORT_TEXT = 6;
+    private static final String SIGNS = "0159-,x";
 
     private final Checks checks = new Checks();
     private Random random;
@@ -15,6 +21,7 @@ public final class ModelTests {
         for (int run = 0; run < RUNS && tests.checks.wrong() == 0; run++) {
             tests.run(run);
         }
+        tests.shortTexts("");
         tests.checks.end();
     }
 
@@ -27,6 +34,21 @@ public final class ModelTests {
             compareOne("run " + seed + ", call " + i + ": ", changes);
         }
         compare("run " + seed + ": digest()", () -> x.digest(), () -> m.digest());
+    }
+
+    private void shortTexts(String text) {
+        x = new MixedBlocks();
+        m = new Model();
+        for (char sign : text.toCharArray()) {
+            x.append(sign);
+            m.append(sign);
+        }
+        boolean right = m.firstError() == text.length();
+        compare(text + ": firstError()", () -> x.firstError(), () -> m.firstError());
+        compare(text + ": sendAll()", () -> x.sendAll(), () -> m.sendAll());
+        for (int i = 0; i < SIGNS.length() && right && text.length() < SHORT_TEXT; i++) {
+            shortTexts(text + SIGNS.charAt(i));
+        }
     }
 
     private void compare(String call, Checks.Call got, Checks.Call want) {
